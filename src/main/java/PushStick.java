@@ -138,10 +138,10 @@ public final class PushStick {
         if (!isAxis(axis)) {
             return UNKNOWN;
         }
-        if (what == 0) {
-            return axes[axis].place + ABOVE_HAND;
+        if (!isWithin(what, 0, 1)) {
+            return OUTSIDE;
         }
-        return what == 1 ? axes[axis].speed + ABOVE_HAND : OUTSIDE;
+        return ABOVE_HAND + (what == 0 ? axes[axis].place : axes[axis].speed);
     }
 
     public int ofEffect(int e, int what) {
@@ -343,7 +343,7 @@ public final class PushStick {
         if (!isAxis(axis)) {
             return UNKNOWN;
         }
-        if (what != 0 && what != 1) {
+        if (!isWithin(what, 0, 1)) {
             return OUTSIDE;
         }
         int raw = rawAt(now, axes[axis]);
@@ -381,7 +381,7 @@ public final class PushStick {
         if (!isAxis(axis)) {
             return UNKNOWN;
         }
-        if (!isWithin(n, 1, MOST_TO_COME) || what < 0 || what > 1) {
+        if (!isWithin(n, 1, MOST_TO_COME) || !isWithin(what, 0, 1)) {
             return OUTSIDE;
         }
         int greatest = 0;
@@ -415,8 +415,8 @@ public final class PushStick {
         if (!isWithin(n, 1, MOST_QUIET)) {
             return OUTSIDE;
         }
-        int many = gatherPlaying();
-        int sets = 1 << many;
+        int count = gatherPlaying();
+        int sets = 1 << count;
         for (int set = 0; set < sets; set++) {
             heldBackBySet[set] = false;
         }
@@ -426,7 +426,7 @@ public final class PushStick {
             markHeldBack(t, axes[1], sets);
         }
         int best = fewestNotHeldBack(sets);
-        return best == NONE ? NONE : asEffects(best, many);
+        return best == NONE ? NONE : asEffects(best, count);
     }
 
     public int many(int what) {
@@ -762,9 +762,9 @@ public final class PushStick {
     }
 
     /** A set of the playing row as a set of EFFECTS by their numbers; the row goes up, so the least stays the least. */
-    private int asEffects(int set, int many) {
+    private int asEffects(int set, int count) {
         int numbers = 0;
-        for (int i = 0; i < many; i++) {
+        for (int i = 0; i < count; i++) {
             Effect it = playing[i];
             if (it != null && (set >> i & 1) == 1) {
                 numbers |= 1 << it.number;

@@ -842,7 +842,7 @@ public final class PromiseTests {
             PushStick x = new PushStick();
             x.rate(rate);
             int count = 0;
-            for (int now = 0; now < 450; now++) {
+            for (int now = 0; now < 250; now++) {
                 while (1000 * count / rate <= now) {
                     count++;
                 }

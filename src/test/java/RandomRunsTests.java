@@ -15,29 +15,51 @@ public final class RandomRunsTests {
     private final NaiveStick naive = new NaiveStick();
     /** How great the times of this run are, so that some runs are crowded and others long. */
     private final int span;
+    /** Whether this run takes numbers mostly from the edges of what they may be. */
+    private final boolean edgy;
 
     private RandomRunsTests(Checks checks, long seed) {
         this.checks = checks;
         this.random = new Random(seed);
         int[] spans = {6, 20, 60, 300, 3000};
         this.span = spans[random.nextInt(spans.length)];
+        this.edgy = random.nextInt(4) == 0;
     }
 
     public static void main(String[] args) {
         Checks checks = new Checks("RandomRunsTests");
         for (long seed = 1; seed <= 1500 && checks.wrong() < 20; seed++) {
-            new RandomRunsTests(checks, seed).run(seed);
+            new RandomRunsTests(checks, seed).run(seed, 0);
+        }
+        for (long seed = 1501; seed <= 1506 && checks.wrong() < 20; seed++) {
+            RandomRunsTests late = new RandomRunsTests(checks, seed);
+            late.run(seed, late.nearTheEndOfTime());
         }
         checks.end();
     }
 
-    private void run(long seed) {
-        for (int i = 0; i < CALLS && checks.wrong() < 20; i++) {
+    private void run(long seed, int callsBefore) {
+        for (int i = callsBefore; i < CALLS && checks.wrong() < 20; i++) {
             oneCall("seed " + seed + ", call " + i + ": ");
         }
     }
 
+    /** How many calls it took to come there. */
+    private int nearTheEndOfTime() {
+        int calls = 99;
+        for (int i = 0; i < calls; i++) {
+            checks.due("long ago", stick.pass(100000), naive.pass(100000));
+        }
+        int rest = 100000 - 20 * span;
+        checks.due("long ago", stick.pass(rest), naive.pass(rest));
+        return calls + 1;
+    }
+
     private int from(int least, int most) {
+        if (edgy && random.nextBoolean()) {
+            int step = random.nextInt(2);
+            return random.nextBoolean() ? Math.min(least + step, most) : Math.max(most - step, least);
+        }
         return least + random.nextInt(most - least + 1);
     }
 
@@ -219,8 +241,11 @@ public final class RandomRunsTests {
                 naive.force(axis, what));
             case 10 -> {
                 int k = or(from(0, 1000000));
-                checks.due(at + "frame(" + k + ")", stick.frame(k), naive.frame(k));
-                checks.due(at + "frames()", stick.frames(), naive.frames());
+                if (random.nextBoolean()) {
+                    checks.due(at + "frame(" + k + ")", stick.frame(k), naive.frame(k));
+                } else {
+                    checks.due(at + "frames()", stick.frames(), naive.frames());
+                }
             }
             case 11 -> {
                 int n = or(Math.max(1, time(2000)));

@@ -15,13 +15,12 @@ public final class RoomTests {
         com.sun.management.ThreadMXBean threads =
             (com.sun.management.ThreadMXBean) ManagementFactory.getThreadMXBean();
         PushStick x = new PushStick();
-        long me = Thread.currentThread().getId();
-        long before = threads.getThreadAllocatedBytes(me);
+        long before = threads.getCurrentThreadAllocatedBytes();
         int sum = 0;
         for (int round = 0; round < 16; round++) {
             sum += everyCall(x, round);
         }
-        long bytes = threads.getThreadAllocatedBytes(me) - before;
+        long bytes = threads.getCurrentThreadAllocatedBytes() - before;
         checks.holds("something was answered", sum != 0);
         return bytes;
     }
